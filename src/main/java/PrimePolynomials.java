@@ -451,9 +451,9 @@ public final class PrimePolynomials {
         private void divideLong(Polynomial a, Polynomial b) {
             left.copyFrom(a);
             over.clear();
-            int reciprocal = reciprocal(b.lead());
+            int leadReciprocal = reciprocal(b.lead());
             for (int shift = a.degree - b.degree; shift >= 0; shift--) {
-                long factor = (long) left.c[shift + b.degree] * reciprocal % p;
+                long factor = (long) left.c[shift + b.degree] * leadReciprocal % p;
                 over.c[shift] = (int) factor;
                 long negative = p - factor;
                 for (int j = 0; factor != 0 && j <= b.degree; j++) {
