@@ -14,7 +14,7 @@ final class Model {
     static final long[] ONE = {1};
     static final long[] X = {0, 1};
 
-    /** Up to this prime all divisors are tried; above it P is greater than any degree. */
+    /** Up to this prime all divisors are tried. */
     private static final int FEW = 7;
 
     record Part(int e, int d, long[] polynomial) { }
@@ -325,6 +325,9 @@ final class Model {
         long[][][] table = new long[16][16][];
         if (p <= FEW) {
             tryAll(table, f);
+        } else if (p <= 15) {
+            // Only those of degree 1 can divide as often as P.
+            byDerivative(table, tryDegree(table, f, 1));
         } else {
             byDerivative(table, f);
         }
@@ -346,22 +349,29 @@ final class Model {
     private void tryAll(long[][][] table, long[] f) {
         long[] left = f;
         for (int d = 1; 2 * d <= left.length - 1; d++) {
-            long many = BigInteger.valueOf(p).pow(d).longValue();
-            for (long code = 0; code < many && 2 * d <= left.length - 1; code++) {
-                long[] candidate = coded(code, d);
-                int e = 0;
-                while (rest(left, candidate).length == 0) {
-                    left = quotient(left, candidate);
-                    e++;
-                }
-                if (e > 0) {
-                    enter(table, e, d, candidate);
-                }
-            }
+            left = tryDegree(table, left, d);
         }
         if (left.length > 1) {
             enter(table, 1, left.length - 1, left);
         }
+    }
+
+    /** What is left of f when all of degree d are taken out, none of a lower degree dividing it. */
+    private long[] tryDegree(long[][][] table, long[] f, int d) {
+        long[] left = f;
+        long many = BigInteger.valueOf(p).pow(d).longValue();
+        for (long code = 0; code < many && left.length > d; code++) {
+            long[] candidate = coded(code, d);
+            int e = 0;
+            while (rest(left, candidate).length == 0) {
+                left = quotient(left, candidate);
+                e++;
+            }
+            if (e > 0) {
+                enter(table, e, d, candidate);
+            }
+        }
+        return left;
     }
 
     private long[] coded(long code, int d) {
@@ -375,7 +385,7 @@ final class Model {
         return row;
     }
 
-    /** For P above all degrees: parts by how often from f and its derivative, then by degree. */
+    /** For f that none divides as often as P: parts by how often from f and its derivative, then by degree. */
     private void byDerivative(long[][][] table, long[] f) {
         long[] repeated = gcd(f, derivative(f));
         long[] once = quotient(f, repeated);

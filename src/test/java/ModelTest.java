@@ -3,7 +3,7 @@ import java.util.Random;
 /** All promises: random runs of calls, each answer and then the whole state being compared with the model's. */
 public final class ModelTest {
     private static final int[] LIMITS = {
-        2, 2, 2, 3, 3, 5, 7, 17, 19, 101, 257, 46337, 65537, 1000000007, 2147483629, 2147483647};
+        2, 2, 2, 3, 3, 5, 7, 11, 13, 17, 19, 101, 257, 46337, 65537, 1000000007, 2147483629, 2147483647};
     private static final int RUNS_EACH = 150;
     private static final Check CHECK = new Check();
 
