@@ -28,6 +28,7 @@ public final class FieldBoundaryTest {
         traceByDegreeOne();
         traceByRest();
         traceOfDegree15();
+        traceBetweenOtherCalls();
         traceChangesNothing();
         traceRefused();
         CHECK.end();
@@ -381,6 +382,27 @@ public final class FieldBoundaryTest {
         CHECK.due("product for x^14", x.trace(2, true), 10);
         CHECK.due("sum for 2", x.trace(3, false), 30);
         CHECK.due("product for 2", x.trace(3, true), 1);
+    }
+
+    /** Promise 21, where other calls came since the field was made: it is by the polynomial of the field. */
+    private static void traceBetweenOtherCalls() {
+        // x^3 - x + 1 makes the field; then x^2 + 1, x^4 - 1 and its part x^2 - 1 are looked at
+        PrimePolynomials x = Check.with(3, Check.row(1, 2, 0, 1), Check.row(0, 1), Check.row(0, 0, 1), Check.row(1, 0, 1), Check.row(2, 0, 0, 0, 1));
+        x.field(0);
+        CHECK.due("isPrime(3)", x.isPrime(3), 1);
+        sumAndProduct("after isPrime", x);
+        CHECK.due("factor(4)", x.factor(4), 2);
+        sumAndProduct("after factor", x);
+        CHECK.due("split(0, 1)", x.split(0, 1), 1);
+        sumAndProduct("after split", x);
+        CHECK.due("field(4), refused", x.field(4), NONE);
+        sumAndProduct("after a refused field", x);
+    }
+
+    private static void sumAndProduct(String when, PrimePolynomials x) {
+        CHECK.due(when + ": sum for x^2", x.trace(2, false), 2);
+        CHECK.due(when + ": product for x", x.trace(1, true), 2);
+        CHECK.due(when + ": sum for x", x.trace(1, false), 0);
     }
 
     /** Promise 21: it answers a number, and no register is changed. */

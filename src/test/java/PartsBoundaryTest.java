@@ -41,6 +41,7 @@ public final class PartsBoundaryTest {
         splitTwo();
         splitThree();
         splitToTheEnd();
+        splitBetweenOtherCalls();
         splitChangesNoMore();
         splitRefused();
         productOfNumber();
@@ -506,6 +507,28 @@ public final class PartsBoundaryTest {
             }
         }
         return false;
+    }
+
+    /** Promise 16, where other calls came since the parts were made: a split is by the part's own polynomial. */
+    private static void splitBetweenOtherCalls() {
+        // (x^2 + 1)(x^2 + x + 2) modulo 3, once more; register 3 makes a field, register 4 is not prime
+        int[][] rows = {{1, 0, 1}, {2, 1, 1}, {0, 1}, {1, 2, 0, 1}, {2, 0, 0, 0, 0, 1}};
+        for (int between = 0; between < 3; between++) {
+            PrimePolynomials x = Check.with(3, rows);
+            x.multiply(0, 0, 1);
+            CHECK.due("factor", x.factor(0), 1);
+            if (between == 0) {
+                CHECK.due("isPrime(4)", x.isPrime(4), 0);
+            } else {
+                CHECK.due("field(3)", x.field(3), 3);
+            }
+            if (between == 2) {
+                CHECK.due("trace(2, true)", x.trace(2, true), 2);
+            }
+            CHECK.due("split(0, 2)", x.split(0, 2), 1);
+            CHECK.part("where x^4 is 1", x, 0, 1, 2, 1, 0, 1);
+            CHECK.part("where it is -1", x, 1, 1, 2, 2, 1, 1);
+        }
     }
 
     /** Terms: "a new part, with the same e and d"; registers, the field and the other parts stay. */
